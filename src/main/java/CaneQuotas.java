@@ -338,8 +338,10 @@ public final class CaneQuotas {
 
         /** Fields are met in the order of their numbers: where all else is equal, the one met before stays ahead. */
         private boolean goesAhead(int field, int best) {
-            if (fields.burnt[field] != fields.burnt[best]) return fields.burnt[field] < fields.burnt[best];
-            return quotaOf(field) > quotaOf(best);
+            int[] burnt = fields.burnt;
+            int[] grower = fields.grower;
+            if (burnt[field] != burnt[best]) return burnt[field] < burnt[best];
+            return growers.quota[grower[field]] > growers.quota[grower[best]];
         }
 
         private int quotaOf(int field) {
