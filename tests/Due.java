@@ -30,7 +30,7 @@ final class Due {
         return number;
     }
 
-    static void write(CaneQuotas x, String text) {
+    static void write(Watched x, String text) {
         for (int i = 0; i < text.length(); i += SIGNS_AT_ONCE) {
             String part = text.substring(i, Math.min(text.length(), i + SIGNS_AT_ONCE));
             is("put of " + part, x.put(number(part)) < 0 ? 1 : 0, 0);

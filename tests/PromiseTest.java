@@ -37,14 +37,13 @@ public final class PromiseTest {
         carryOut();
         carryOutErrors();
         undo();
-        undoOfEachChange();
         save();
         restore();
         Due.end("PromiseTest");
     }
 
     private static void newObject() {
-        CaneQuotas x = new CaneQuotas();
+        Watched x = new Watched();
         int[] counts = {0, 0, 0, 0, 0, 0, 0, 0, 0, 0, 0, 4, 10, 60, 100, 8, 5, 30, 0, 0};
         for (int what = 0; what < counts.length; what++) Due.is("new: count " + what, x.count(what), counts[what]);
         int[] ofGrower = {100, 0, 0, 0, 0, 0};
@@ -66,7 +65,7 @@ public final class PromiseTest {
         int[] least = {0, 1, 1, 0, 0, 1, 0};
         int[] most = {20, 30, 200, 400, 100, 20, 999};
         int[] first = {4, 10, 60, 100, 8, 5, 30};
-        CaneQuotas x = new CaneQuotas();
+        Watched x = new Watched();
         for (int setting = 0; setting < 7; setting++) {
             Due.is("set below", x.set(setting, least[setting] - 1), BAD_VALUE);
             Due.is("set beyond", x.set(setting, most[setting] + 1), BAD_VALUE);
@@ -83,7 +82,7 @@ public final class PromiseTest {
         for (int setting : new int[] {-1, 7, Integer.MIN_VALUE, Integer.MAX_VALUE}) {
             Due.is("set no setting", x.set(setting, 1), BAD_VALUE);
         }
-        CaneQuotas y = new CaneQuotas();
+        Watched y = new Watched();
         y.set(TRUCKS, 21);
         Due.is("an error is no change", y.count(19), 0);
         y.set(TRUCKS, 4);
@@ -91,7 +90,7 @@ public final class PromiseTest {
     }
 
     private static void setYardBelowWhatIsThere() {
-        CaneQuotas x = new CaneQuotas();
+        Watched x = new Watched();
         x.field(0, 50, 50, 0);
         x.stop(0, 0);
         x.pass(1);
@@ -112,7 +111,7 @@ public final class PromiseTest {
     }
 
     private static void quota() {
-        CaneQuotas x = new CaneQuotas();
+        Watched x = new Watched();
         Due.is("quota", x.quota(0, 0), 100);
         Due.is("quota most", x.quota(0, 9999), 0);
         Due.is("quota left", x.ofGrower(0, 0), 9999);
@@ -132,7 +131,7 @@ public final class PromiseTest {
     }
 
     private static void lend() {
-        CaneQuotas x = new CaneQuotas();
+        Watched x = new Watched();
         Due.is("lend all", x.lend(0, 5, 100), 0);
         Due.is("gave", x.ofGrower(0, 0), 0);
         Due.is("got", x.ofGrower(5, 0), 200);
@@ -160,7 +159,7 @@ public final class PromiseTest {
     }
 
     private static void field() {
-        CaneQuotas x = new CaneQuotas();
+        Watched x = new Watched();
         x.pass(3);
         Due.is("first", x.field(0, 1, 1, 3), 0);
         Due.is("greatest", x.field(5, 300, 100, 999), 1);
@@ -190,7 +189,7 @@ public final class PromiseTest {
     }
 
     private static void stop() {
-        CaneQuotas x = new CaneQuotas();
+        Watched x = new Watched();
         Due.is("first below", x.stop(-1, 5), BAD_VALUE);
         Due.is("last before first", x.stop(5, 4), BAD_VALUE);
         Due.is("last beyond", x.stop(5, 1000), BAD_VALUE);
@@ -212,7 +211,7 @@ public final class PromiseTest {
     }
 
     private static void dropStop() {
-        CaneQuotas x = new CaneQuotas();
+        Watched x = new Watched();
         Due.is("none", x.dropStop(0), NO_SUCH);
         x.stop(0, 0);
         x.stop(1, 1);
@@ -237,7 +236,7 @@ public final class PromiseTest {
     }
 
     private static void pass() {
-        CaneQuotas x = new CaneQuotas();
+        Watched x = new Watched();
         Due.is("0 days", x.pass(0), BAD_VALUE);
         Due.is("100 days", x.pass(100), BAD_VALUE);
         for (int far : FAR) Due.is("days far", x.pass(far), BAD_VALUE);
@@ -260,7 +259,7 @@ public final class PromiseTest {
 
     /** Losing goes before bringing, bringing before crushing. */
     private static void dayOrder() {
-        CaneQuotas x = new CaneQuotas();
+        Watched x = new Watched();
         x.set(OLD, 1);
         x.set(TRUCKS, 1);
         x.field(0, 30, 100, 0);
@@ -278,7 +277,7 @@ public final class PromiseTest {
     }
 
     private static void dayRule() {
-        CaneQuotas x = new CaneQuotas();
+        Watched x = new Watched();
         x.set(LOAD, 30);
         x.quota(2, 101);
         x.pass(1);
@@ -304,7 +303,7 @@ public final class PromiseTest {
         Due.is("burnt later, but the others have no quota", x.next(), 4);
         x.quota(1, 1);
         Due.is("burnt first goes before the greater quota", x.next(), 1);
-        CaneQuotas y = new CaneQuotas();
+        Watched y = new Watched();
         y.set(LOAD, 30);
         y.field(0, 100, 50, 0);
         y.field(1, 100, 50, 0);
@@ -315,7 +314,7 @@ public final class PromiseTest {
     }
 
     private static void dayLoadSizes() {
-        CaneQuotas x = new CaneQuotas();
+        Watched x = new Watched();
         x.field(0, 25, 50, 0);
         x.stop(0, 9);
         x.pass(1);
@@ -337,7 +336,7 @@ public final class PromiseTest {
         Due.is("full", x.count(3), 45);
         Due.is("no more", x.count(4), 6);
         Due.is("loads so far", x.count(9), 6);
-        CaneQuotas y = new CaneQuotas();
+        Watched y = new Watched();
         y.field(0, 300, 50, 0);
         y.set(TRUCKS, 0);
         y.pass(1);
@@ -349,7 +348,7 @@ public final class PromiseTest {
     }
 
     private static void dayLost() {
-        CaneQuotas x = new CaneQuotas();
+        Watched x = new Watched();
         x.set(TRUCKS, 0);
         x.field(0, 40, 50, 0);
         x.field(0, 7, 50, 1);
@@ -372,7 +371,7 @@ public final class PromiseTest {
     }
 
     private static void dayCrush() {
-        CaneQuotas x = new CaneQuotas();
+        Watched x = new Watched();
         x.set(MILL, 7);
         x.set(PRICE, 33);
         x.field(0, 20, 95, 0);
@@ -395,7 +394,7 @@ public final class PromiseTest {
     }
 
     private static void dayStopped() {
-        CaneQuotas x = new CaneQuotas();
+        Watched x = new Watched();
         x.set(OLD, 1);
         x.field(0, 10, 50, 0);
         x.stop(0, 1);
@@ -415,7 +414,7 @@ public final class PromiseTest {
     }
 
     private static void ofField() {
-        CaneQuotas x = new CaneQuotas();
+        Watched x = new Watched();
         x.set(MILL, 15);
         x.set(OLD, 2);
         x.set(TRUCKS, 2);
@@ -443,14 +442,14 @@ public final class PromiseTest {
         }
     }
 
-    private static void numbers(CaneQuotas x, int field, int[] want) {
+    private static void numbers(Watched x, int field, int[] want) {
         for (int what = 0; what < want.length; what++) {
             Due.is("day " + x.count(0) + " ofField(" + field + ", " + what + ")", x.ofField(field, what), want[what]);
         }
     }
 
     private static void ofGrower() {
-        CaneQuotas x = new CaneQuotas();
+        Watched x = new Watched();
         x.set(TRUCKS, 3);
         x.set(MILL, 18);
         x.set(OLD, 1);
@@ -478,7 +477,7 @@ public final class PromiseTest {
     }
 
     private static void load() {
-        CaneQuotas x = new CaneQuotas();
+        Watched x = new Watched();
         Due.is("an empty yard", x.load(0, 0), NO_SUCH);
         Due.is("NO_SUCH goes first", x.load(0, 3), NO_SUCH);
         x.field(1, 5, 50, 0);
@@ -506,7 +505,7 @@ public final class PromiseTest {
     }
 
     private static void fullYard() {
-        CaneQuotas x = new CaneQuotas();
+        Watched x = new Watched();
         x.set(YARD, 400);
         x.set(LOAD, 1);
         x.set(TRUCKS, 20);
@@ -532,7 +531,7 @@ public final class PromiseTest {
     }
 
     private static void count() {
-        CaneQuotas x = new CaneQuotas();
+        Watched x = new Watched();
         x.set(LOAD, 9);
         x.set(OLD, 1);
         x.set(MILL, 13);
@@ -551,7 +550,7 @@ public final class PromiseTest {
     }
 
     private static void fields() {
-        CaneQuotas x = new CaneQuotas();
+        Watched x = new Watched();
         x.set(TRUCKS, 1);
         x.set(OLD, 1);
         x.field(0, 10, 50, 0);
@@ -573,7 +572,7 @@ public final class PromiseTest {
     }
 
     private static void next() {
-        CaneQuotas x = new CaneQuotas();
+        Watched x = new Watched();
         x.set(OLD, 1);
         x.set(TRUCKS, 0);
         x.field(0, 10, 50, 0);
@@ -598,7 +597,7 @@ public final class PromiseTest {
     }
 
     private static void then() {
-        CaneQuotas x = new CaneQuotas();
+        Watched x = new Watched();
         x.set(TRUCKS, 1);
         x.set(OLD, 2);
         x.field(0, 50, 70, 0);
@@ -624,7 +623,7 @@ public final class PromiseTest {
         }
         Due.is("nothing changes", x.count(19), 5);
         Due.is("nothing changes", x.count(0), 4);
-        CaneQuotas y = new CaneQuotas();
+        Watched y = new Watched();
         y.field(0, 10, 70, 0);
         y.stop(0, 0);
         Due.is("stops count", y.then(1, 1), 0);
@@ -638,7 +637,7 @@ public final class PromiseTest {
     }
 
     private static void leastTrucks() {
-        CaneQuotas x = new CaneQuotas();
+        Watched x = new Watched();
         x.set(OLD, 2);
         x.field(0, 65, 70, 0);
         Due.is("3 days: nothing can be lost", x.leastTrucks(3), 0);
@@ -654,7 +653,7 @@ public final class PromiseTest {
         Due.is("65 loads in 3 days are too many", x.leastTrucks(4), NONE);
         x.set(LOAD, 2);
         Due.is("33 loads in 3 days", x.leastTrucks(4), 11);
-        CaneQuotas y = new CaneQuotas();
+        Watched y = new Watched();
         y.set(LOAD, 1);
         y.set(OLD, 1);
         y.field(0, 40, 70, 0);
@@ -670,7 +669,7 @@ public final class PromiseTest {
     }
 
     private static void leastTrucksInASmallYard() {
-        CaneQuotas x = new CaneQuotas();
+        Watched x = new Watched();
         x.set(LOAD, 10);
         x.set(YARD, 20);
         x.set(MILL, 20);
@@ -685,7 +684,7 @@ public final class PromiseTest {
     }
 
     private static void stopCosts() {
-        CaneQuotas x = new CaneQuotas();
+        Watched x = new Watched();
         x.field(0, 40, 80, 0);
         Due.is("stopped for none", x.stopCosts(5, 0), 100000);
         Due.is("stopped for a day: 32 or 28 (7 a load)", x.stopCosts(5, 1), 100004);
@@ -705,7 +704,7 @@ public final class PromiseTest {
         Due.is("nothing changes", x.count(2), 1);
         Due.is("nothing changes", x.count(0), 0);
         Due.is("nothing changes", x.count(19), 2);
-        CaneQuotas y = new CaneQuotas();
+        Watched y = new Watched();
         y.set(LOSS, 0);
         y.set(LOAD, 3);
         y.set(MILL, 2);
@@ -716,7 +715,7 @@ public final class PromiseTest {
     }
 
     private static void put() {
-        CaneQuotas x = new CaneQuotas();
+        Watched x = new Watched();
         Due.is("a character", x.put('d'), 1);
         Due.is("8 characters", x.put(Due.number("12345678")), 9);
         Due.is("none", x.put(0), BAD_VALUE);
@@ -744,7 +743,7 @@ public final class PromiseTest {
         Due.is("80", x.put(Due.number("aaaaa")), 80);
         Due.is("81", x.put('a'), TOO_MANY);
         Due.is("no change", x.count(19), 0);
-        CaneQuotas y = new CaneQuotas();
+        Watched y = new Watched();
         Due.write(y, "q3=1234;q0=9");
         Due.is("the order of the characters", y.carryOut(), 2);
         Due.is("1234", y.ofGrower(3, 0), 1234);
@@ -752,7 +751,7 @@ public final class PromiseTest {
     }
 
     private static void wipe() {
-        CaneQuotas x = new CaneQuotas();
+        Watched x = new Watched();
         Due.is("empty", x.wipe(), 0);
         Due.write(x, "d1;d2");
         Due.is("wipe", x.wipe(), 5);
@@ -822,18 +821,18 @@ public final class PromiseTest {
         faultOf("s1-2;q0=1;l1>2=3;f0:1%2@3;d1", NONE);
         faultOf("s1-2;q0=1;l1>2=3;f0:1%2@3;d1;", 29);
         faultOf("s1-2;q0=1;l1>2=3;f0:1%2@3;dd", 27);
-        CaneQuotas x = new CaneQuotas();
+        Watched x = new Watched();
         for (int i = 0; i < 10; i++) x.put(Due.number(i < 9 ? "d1;d123;" : "d1;d1234"));
         Due.is("80 characters", x.count(18), 80);
         Due.is("80 characters", x.fault(), NONE);
-        CaneQuotas y = new CaneQuotas();
+        Watched y = new Watched();
         for (int i = 0; i < 10; i++) y.put(Due.number("d1;d123;"));
         Due.is("80 characters", y.fault(), 80);
         Due.is("80 characters", y.count(18), 80);
     }
 
     private static void faultOf(String text, int want) {
-        CaneQuotas x = new CaneQuotas();
+        Watched x = new Watched();
         Due.write(x, text);
         Due.is("fault of " + text, x.fault(), want);
         Due.is("fault of " + text + " again", x.fault(), want);
@@ -846,7 +845,7 @@ public final class PromiseTest {
     }
 
     private static void carryOut() {
-        CaneQuotas x = new CaneQuotas();
+        Watched x = new Watched();
         Due.is("empty", x.carryOut(), BAD_TEXT);
         Due.write(x, "f2:40%80@0;q1=7;l2>3=25;s1-2;d3");
         Due.is("five orders", x.carryOut(), 5);
@@ -868,7 +867,7 @@ public final class PromiseTest {
         Due.is("day 0", x.count(0), 0);
         Due.is("quota", x.ofGrower(1, 0), 100);
         Due.is("the pad stays empty", x.count(18), 0);
-        CaneQuotas y = new CaneQuotas();
+        Watched y = new Watched();
         for (int i = 0; i < 13; i++) Due.write(y, "q0=1;");
         Due.write(y, "q5=10;d99;s0-0");
         Due.is("79 characters", y.count(18), 79);
@@ -881,7 +880,7 @@ public final class PromiseTest {
             "q0=1;f0:1%101@1;q0=2", "q0=1;f0:1%1@1000;q0=2", "q0=1;l0>0=1;q0=2", "q0=1;l0>1=0;q0=2",
             "q0=1;l0>1=2;q0=2", "q0=1;s2-1;q0=2", "q0=1;s0-1000;q0=2"};
         for (String text : texts) {
-            CaneQuotas x = new CaneQuotas();
+            Watched x = new Watched();
             Due.write(x, text);
             Due.is(text, x.carryOut(), 1);
             Due.is("up to the error", x.ofGrower(0, 0), 1);
@@ -889,7 +888,7 @@ public final class PromiseTest {
             Due.is("a change", x.count(19), 1);
             Due.is("nothing of the error", x.count(1) + x.count(2) + x.count(0), 0);
         }
-        CaneQuotas y = new CaneQuotas();
+        Watched y = new Watched();
         Due.write(y, "d0;d5");
         Due.is("none is carried out", y.carryOut(), 0);
         Due.is("a change all the same", y.count(19), 1);
@@ -907,7 +906,7 @@ public final class PromiseTest {
     }
 
     private static void undo() {
-        CaneQuotas x = new CaneQuotas();
+        Watched x = new Watched();
         for (int i = 1; i <= 8; i++) {
             x.quota(0, i);
             Due.is("history", x.count(19), Math.min(i, 6));
@@ -937,48 +936,8 @@ public final class PromiseTest {
         Due.is("restore is undone", x.ofGrower(0, 0), 2);
     }
 
-    private static void undoOfEachChange() {
-        CaneQuotas x = new CaneQuotas();
-        x.set(MILL, 7);
-        x.field(0, 60, 95, 0);
-        x.field(1, 60, 95, 0);
-        x.stop(1, 1);
-        x.pass(2);
-        long[] before = all(x);
-        x.set(PRICE, 31);
-        same("set", before, x);
-        x.quota(0, 3);
-        same("quota", before, x);
-        x.lend(1, 0, 3);
-        same("lend", before, x);
-        x.field(2, 3, 4, 5);
-        same("field", before, x);
-        x.stop(3, 3);
-        same("stop", before, x);
-        x.dropStop(0);
-        same("dropStop", before, x);
-        x.pass(9);
-        same("pass", before, x);
-        Due.write(x, "d3;f0:1%1@50");
-        x.carryOut();
-        same("carryOut", before, x);
-        x.save(0);
-        x.pass(4);
-        x.restore(0);
-        x.undo();
-        Due.is("restore", x.count(0), 6);
-        same("pass", before, x);
-    }
-
-    /** Undoes the change and looks whether all is as before; the history keeps what it had room for. */
-    private static void same(String change, long[] before, CaneQuotas x) {
-        x.undo();
-        long[] now = all(x);
-        for (int i = 0; i < before.length; i++) Due.is("undo of " + change + ", number " + i, now[i], before[i]);
-    }
-
-    private static long[] all(CaneQuotas x) {
-        long[] all = new long[18 + 6 * 6 + 3 * 10 + 30 * 3 + 4 + 1];
+    private static long[] all(Watched x) {
+        long[] all = new long[18 + 6 * 6 + 3 * 10 + 8 * 3 + 4 + 1];
         int at = 0;
         for (int what = 0; what < 18; what++) all[at++] = x.count(what);
         for (int grower = 0; grower < 6; grower++) {
@@ -987,7 +946,7 @@ public final class PromiseTest {
         for (int field = 0; field < 3; field++) {
             for (int what = 0; what < 10; what++) all[at++] = x.ofField(field, what);
         }
-        for (int place = 0; place < 30; place++) {
+        for (int place = 0; place < 8; place++) {
             for (int what = 0; what < 3; what++) all[at++] = x.load(place, what);
         }
         for (int how = 0; how < 4; how++) all[at++] = x.fields(how);
@@ -996,7 +955,7 @@ public final class PromiseTest {
     }
 
     private static void save() {
-        CaneQuotas x = new CaneQuotas();
+        Watched x = new Watched();
         Due.is("no field", x.save(0), 0);
         x.field(0, 50, 50, 0);
         Due.is("a field", x.save(1), 1);
@@ -1014,7 +973,7 @@ public final class PromiseTest {
     }
 
     private static void restore() {
-        CaneQuotas x = new CaneQuotas();
+        Watched x = new Watched();
         Due.is("nothing saved", x.restore(0), NOT_POSSIBLE);
         Due.is("slot -1", x.restore(-1), BAD_VALUE);
         Due.is("slot 2", x.restore(2), BAD_VALUE);

@@ -1,14 +1,14 @@
-import java.util.Arrays;
-
 /** Random runs, the same each time: the program and the model have to answer alike. */
 public final class RunsTest {
-    private static final int RUNS = 1500;
-    private static final int CALLS = 300;
+    private static final int RUNS = 6000;
+    // A change takes some 90 calls at most, a text that is put sign by sign; the last looks take 70.
+    private static final int CALLS_BEFORE_THE_LAST_CHANGE = 340;
+    private static final int LAST_LOOKS = 10;
     private static final int[] FAR = {Integer.MIN_VALUE, Integer.MIN_VALUE + 1, -1000, -1, 0, 1, 5, 6, 20, 30, 31, 99,
         100, 300, 301, 400, 999, 1000, 1001, 9999, 10000, Integer.MAX_VALUE - 1, Integer.MAX_VALUE};
 
     private static long seed;
-    private static CaneQuotas x;
+    private static Watched x;
     private static Model m;
     private static int run;
     private static int longDays;
@@ -16,17 +16,16 @@ public final class RunsTest {
     public static void main(String[] args) {
         for (run = 0; run < RUNS; run++) {
             seed = run * 7919L + 17;
-            x = new CaneQuotas();
+            x = new Watched();
             m = new Model();
             longDays = upTo(3);
             settle();
-            for (int call = 0; call < CALLS; call++) {
+            for (int call = 0; x.calls() < CALLS_BEFORE_THE_LAST_CHANGE; call++) {
                 change();
                 if (call % 4 == 0) lookAtSome();
-                if (call % 25 == 0) whatIf();
-                if (call % 60 == 0) lookAtAll();
+                if (call % 20 == 19) whatIf();
             }
-            lookAtAll();
+            for (int look = 0; look < LAST_LOOKS; look++) lookAtSome();
         }
         Due.end("RunsTest");
     }
@@ -172,46 +171,18 @@ public final class RunsTest {
 
     private static void lookAtSome() {
         due("next", x.next(), m.next());
-        int number = far(upTo(29)), what = far(upTo(19));
+        int what = far(upTo(19));
         due("count(" + what + ")", x.count(what), m.count(what));
-        due("ofField(" + number + ", " + what % 10 + ")", x.ofField(number, what % 10), m.ofField(number, what % 10));
-        due("ofField(" + number + ", " + what + ")", x.ofField(number, what), m.ofField(number, what));
-        due("ofGrower(" + number % 6 + ", " + what + ")", x.ofGrower(number % 6, what), m.ofGrower(number % 6, what));
-        due("ofGrower(" + number + ", " + what + ")", x.ofGrower(number, what), m.ofGrower(number, what));
-        due("load(" + number + ", " + what + ")", x.load(number, what), m.load(number, what));
-        due("fields(" + what + ")", x.fields(what), m.fields(what));
-    }
-
-    private static void lookAtAll() {
-        long[] got = new long[2000], want = new long[2000];
-        int at = 0;
-        for (int what = -1; what <= 20; what++, at++) {
-            got[at] = x.count(what);
-            want[at] = m.count(what);
-        }
-        for (int grower = -1; grower <= 6; grower++) {
-            for (int what = -1; what <= 6; what++, at++) {
-                got[at] = x.ofGrower(grower, what);
-                want[at] = m.ofGrower(grower, what);
-            }
-        }
-        for (int field = -1; field <= 30; field++) {
-            for (int what = -1; what <= 10; what++, at++) {
-                got[at] = x.ofField(field, what);
-                want[at] = m.ofField(field, what);
-            }
-        }
-        for (int place = -1; place <= 401; place++) {
-            for (int what = 0; what <= 2; what++, at++) {
-                got[at] = x.load(place, what);
-                want[at] = m.load(place, what);
-            }
-        }
-        for (int how = -1; how <= 4; how++, at++) {
-            got[at] = x.fields(how);
-            want[at] = m.fields(how);
-        }
-        int differs = Arrays.mismatch(got, want);
-        if (differs >= 0) due("number " + differs + " of all", got[differs], want[differs]);
+        int field = far(upTo(m.count(1)));
+        what = far(upTo(9));
+        due("ofField(" + field + ", " + what + ")", x.ofField(field, what), m.ofField(field, what));
+        int grower = far(upTo(5));
+        what = far(upTo(5));
+        due("ofGrower(" + grower + ", " + what + ")", x.ofGrower(grower, what), m.ofGrower(grower, what));
+        int place = far(upTo(m.count(4)));
+        what = far(upTo(2));
+        due("load(" + place + ", " + what + ")", x.load(place, what), m.load(place, what));
+        int how = far(upTo(3));
+        due("fields(" + how + ")", x.fields(how), m.fields(how));
     }
 }
