@@ -14,6 +14,7 @@ public final class DayEdgesTest {
         oldOfEachRange();
         oldChangedInTime();
         lostFieldsOfOneDay();
+        tonnesOnBurntFields();
         lostIsNotHeldUp();
         purityDownTo0();
         lossOfItsRange();
@@ -44,15 +45,10 @@ public final class DayEdgesTest {
         stopsAtTheEndsOfTime();
         stopsOverEachOther();
         stopDroppedFirstMiddleLast();
+        stopsBehindMoveUpWhole();
         stoppedWithAnEmptyYard();
         days999And1000();
         Due.end("DayEdgesTest");
-    }
-
-    private static Watched mill(int... settings) {
-        Watched x = new Watched();
-        for (int i = 0; i < settings.length; i += 2) x.set(settings[i], settings[i + 1]);
-        return x;
     }
 
     private static void numbers(String told, Watched x, int field, int... want) {
@@ -82,7 +78,7 @@ public final class DayEdgesTest {
     // ---- how a field is
 
     private static void greenUntilItsDay() {
-        Watched x = mill(TRUCKS, 1);
+        Watched x = Watched.mill(TRUCKS, 1);
         x.field(3, 25, 50, 2);
         for (int day = 0; day < 2; day++) {
             numbers("green on day " + day, x, 0, GREEN, 25, 0, 0, 0, 50);
@@ -103,7 +99,7 @@ public final class DayEdgesTest {
     }
 
     private static void burntOnTheDayOfNow() {
-        Watched x = mill();
+        Watched x = Watched.mill();
         x.pass(7);
         x.field(0, 10, 50, 7);
         x.field(0, 10, 50, 8);
@@ -115,7 +111,7 @@ public final class DayEdgesTest {
     }
 
     private static void emptyWithItsLastLoad() {
-        Watched x = mill(TRUCKS, 1, MILL, 1);
+        Watched x = Watched.mill(TRUCKS, 1, MILL, 1);
         x.field(0, 11, 50, 0);
         x.pass(1);
         numbers("a tonne is on it", x, 0, BURNT, 1, 9, 1, 0, 42);
@@ -131,7 +127,7 @@ public final class DayEdgesTest {
     }
 
     private static void emptyIsNeverLost() {
-        Watched x = mill(OLD, 1, MILL, 1);
+        Watched x = Watched.mill(OLD, 1, MILL, 1);
         x.field(0, 9, 50, 0);
         x.pass(1);
         Due.is("empty", x.ofField(0, 4), EMPTY);
@@ -142,7 +138,7 @@ public final class DayEdgesTest {
     }
 
     private static void lostWithWhatIsLeft() {
-        Watched x = mill(OLD, 1, TRUCKS, 1, MILL, 4);
+        Watched x = Watched.mill(OLD, 1, TRUCKS, 1, MILL, 4);
         x.field(2, 21, 50, 0);
         x.pass(2);
         numbers("a tonne is left", x, 0, BURNT, 1, 12, 8, 0, 34);
@@ -159,7 +155,7 @@ public final class DayEdgesTest {
     }
 
     private static void thirtyFieldsInASet() {
-        Watched x = mill(TRUCKS, 0, OLD, 1);
+        Watched x = Watched.mill(TRUCKS, 0, OLD, 1);
         Due.is("no field", x.fields(GREEN) | x.fields(BURNT) | x.fields(EMPTY) | x.fields(LOST), 0);
         Due.is("no field", x.count(1), 0);
         for (int field = 0; field < 30; field++) x.field(field % 6, 5, 5, field / 10);
@@ -181,7 +177,7 @@ public final class DayEdgesTest {
 
     private static void oldOfEachRange() {
         for (int old : new int[] {1, 2, 5, 19, 20}) {
-            Watched x = mill(TRUCKS, 0, OLD, old);
+            Watched x = Watched.mill(TRUCKS, 0, OLD, old);
             x.pass(3);
             x.field(4, 300, 50, 3);
             x.pass(old);
@@ -195,7 +191,7 @@ public final class DayEdgesTest {
             Due.is("all is lost", x.count(7), 300);
             Due.is("of the grower", x.ofGrower(4, 3), 300);
         }
-        Watched y = mill(TRUCKS, 1, OLD, 3);
+        Watched y = Watched.mill(TRUCKS, 1, OLD, 3);
         y.field(0, 50, 50, 0);
         y.pass(4);
         Due.is("of exactly OLD days it is brought", y.ofField(0, 5), 10);
@@ -204,7 +200,7 @@ public final class DayEdgesTest {
     }
 
     private static void oldChangedInTime() {
-        Watched x = mill(TRUCKS, 0, OLD, 5);
+        Watched x = Watched.mill(TRUCKS, 0, OLD, 5);
         x.field(0, 10, 50, 0);
         x.field(0, 20, 50, 1);
         x.pass(6);
@@ -222,7 +218,7 @@ public final class DayEdgesTest {
     }
 
     private static void lostFieldsOfOneDay() {
-        Watched x = mill(TRUCKS, 0, OLD, 1);
+        Watched x = Watched.mill(TRUCKS, 0, OLD, 1);
         x.field(0, 1, 50, 0);
         x.field(1, 20, 50, 0);
         x.field(0, 300, 50, 0);
@@ -239,9 +235,27 @@ public final class DayEdgesTest {
         Due.is("nothing was brought", x.ofGrower(0, 1), 0);
     }
 
+    private static void tonnesOnBurntFields() {
+        Watched x = Watched.mill(TRUCKS, 1, OLD, 1);
+        Due.is("no field", x.ofGrower(0, 5), 0);
+        x.field(0, 15, 50, 0);
+        x.field(1, 300, 50, 0);
+        x.field(0, 7, 50, 0);
+        x.field(0, 4, 50, 1);
+        Due.is("two of the grower, a green one does not count", x.ofGrower(0, 5), 22);
+        Due.is("one of the other", x.ofGrower(1, 5), 300);
+        x.pass(1);
+        Due.is("a load less, and the one that became burnt", x.ofGrower(0, 5), 16);
+        x.set(TRUCKS, 0);
+        x.pass(2);
+        Due.is("what was lost does not count", x.ofGrower(0, 5), 4);
+        x.pass(1);
+        Due.is("all is lost", x.ofGrower(0, 5), 0);
+    }
+
     /** Neither a stop nor a full yard nor a quota of 0 keeps cane; what is in the yard is never lost. */
     private static void lostIsNotHeldUp() {
-        Watched x = mill(OLD, 1, YARD, 5);
+        Watched x = Watched.mill(OLD, 1, YARD, 5);
         x.field(0, 10, 50, 0);
         x.field(1, 10, 50, 0);
         x.quota(1, 0);
@@ -257,7 +271,7 @@ public final class DayEdgesTest {
     // ---- purity
 
     private static void purityDownTo0() {
-        Watched x = mill(TRUCKS, 0, OLD, 20, LOSS, 8);
+        Watched x = Watched.mill(TRUCKS, 0, OLD, 20, LOSS, 8);
         x.field(0, 10, 40, 0);
         x.field(0, 10, 41, 0);
         x.field(0, 10, 39, 0);
@@ -280,7 +294,7 @@ public final class DayEdgesTest {
     }
 
     private static void lossOfItsRange() {
-        Watched x = mill(TRUCKS, 0, OLD, 20, LOSS, 100);
+        Watched x = Watched.mill(TRUCKS, 0, OLD, 20, LOSS, 100);
         x.field(0, 10, 100, 0);
         Due.is("of age 0", x.ofField(0, 9), 100);
         x.pass(1);
@@ -298,7 +312,7 @@ public final class DayEdgesTest {
 
     private static void trucksOfTheirRange() {
         for (int trucks : new int[] {0, 1, 2, 19, 20}) {
-            Watched x = mill(TRUCKS, trucks, LOAD, 1);
+            Watched x = Watched.mill(TRUCKS, trucks, LOAD, 1);
             x.field(0, 100, 50, 0);
             x.stop(0, 9);
             x.pass(1);
@@ -314,7 +328,7 @@ public final class DayEdgesTest {
 
     private static void loadOfItsRange() {
         for (int load : new int[] {1, 2, 29, 30}) {
-            Watched x = mill(TRUCKS, 1, LOAD, load, MILL, 200);
+            Watched x = Watched.mill(TRUCKS, 1, LOAD, load, MILL, 200);
             x.field(0, 100, 50, 0);
             x.stop(0, 0);
             x.pass(1);
@@ -324,7 +338,7 @@ public final class DayEdgesTest {
     }
 
     private static void burntFirstGoesFirst() {
-        Watched x = mill(TRUCKS, 3);
+        Watched x = Watched.mill(TRUCKS, 3);
         x.pass(5);
         x.quota(0, 1000);
         x.quota(2, 11);
@@ -339,7 +353,7 @@ public final class DayEdgesTest {
     }
 
     private static void greatestQuotaOfTheSameDay() {
-        Watched x = mill(TRUCKS, 5);
+        Watched x = Watched.mill(TRUCKS, 5);
         x.quota(0, 100);
         x.quota(1, 101);
         x.quota(2, 99);
@@ -354,7 +368,7 @@ public final class DayEdgesTest {
     }
 
     private static void lowestNumberOfTheSameQuota() {
-        Watched x = mill(TRUCKS, 4);
+        Watched x = Watched.mill(TRUCKS, 4);
         x.field(1, 99, 50, 0);
         x.field(0, 99, 50, 0);
         x.field(1, 99, 50, 0);
@@ -363,7 +377,7 @@ public final class DayEdgesTest {
         Due.is("all the same", x.next(), 0);
         x.pass(1);
         queueOfFields("by turns of the lowest numbers", x, 0, 1, 0, 1);
-        Watched y = mill(TRUCKS, 3);
+        Watched y = Watched.mill(TRUCKS, 3);
         y.field(4, 15, 50, 0);
         y.field(4, 15, 50, 0);
         y.stop(0, 9);
@@ -373,7 +387,7 @@ public final class DayEdgesTest {
     }
 
     private static void quotaOf0And1() {
-        Watched x = mill();
+        Watched x = Watched.mill();
         x.quota(0, 0);
         x.field(0, 10, 50, 0);
         Due.is("a quota of 0", x.next(), NONE);
@@ -393,7 +407,7 @@ public final class DayEdgesTest {
     }
 
     private static void quotaEndsWithinTheDay() {
-        Watched x = mill(TRUCKS, 4);
+        Watched x = Watched.mill(TRUCKS, 4);
         x.quota(0, 15);
         x.quota(1, 5);
         x.field(0, 99, 50, 0);
@@ -410,7 +424,7 @@ public final class DayEdgesTest {
     private static void loadCutByTheField() {
         int[][] due = {{9}, {10}, {10, 1}};
         for (int i = 0; i < 3; i++) {
-            Watched x = mill();
+            Watched x = Watched.mill();
             x.field(0, 9 + i, 50, 0);
             x.stop(0, 0);
             x.pass(1);
@@ -418,7 +432,7 @@ public final class DayEdgesTest {
             Due.is("empty", x.ofField(0, 4), EMPTY);
             Due.is("the quota left", x.ofGrower(0, 0), 91 - i);
         }
-        Watched one = mill();
+        Watched one = Watched.mill();
         one.field(0, 1, 50, 0);
         one.stop(0, 0);
         one.pass(1);
@@ -428,7 +442,7 @@ public final class DayEdgesTest {
     private static void loadCutByTheQuota() {
         int[][] due = {{9}, {10}, {10, 1}};
         for (int i = 0; i < 3; i++) {
-            Watched x = mill();
+            Watched x = Watched.mill();
             x.quota(0, 9 + i);
             x.field(0, 50, 50, 0);
             x.stop(0, 0);
@@ -442,7 +456,7 @@ public final class DayEdgesTest {
     private static void loadCutByTheRoom() {
         int[][] due = {{9}, {10}, {10, 1}};
         for (int i = 0; i < 3; i++) {
-            Watched x = mill(YARD, 9 + i);
+            Watched x = Watched.mill(YARD, 9 + i);
             x.field(0, 50, 50, 0);
             x.stop(0, 0);
             x.pass(1);
@@ -456,7 +470,7 @@ public final class DayEdgesTest {
     private static void loadCutByTheLeastOfAll() {
         int[][] cuts = {{7, 8, 9}, {7, 9, 8}, {8, 7, 9}, {9, 7, 8}, {8, 9, 7}, {9, 8, 7}, {7, 7, 7}};
         for (int[] cut : cuts) {
-            Watched x = mill(TRUCKS, 1, YARD, cut[2]);
+            Watched x = Watched.mill(TRUCKS, 1, YARD, cut[2]);
             x.field(0, cut[0], 50, 0);
             x.quota(0, cut[1]);
             x.stop(0, 0);
@@ -466,7 +480,7 @@ public final class DayEdgesTest {
     }
 
     private static void yardFullAndEmpty() {
-        Watched x = mill(YARD, 20, MILL, 200);
+        Watched x = Watched.mill(YARD, 20, MILL, 200);
         x.field(0, 99, 50, 0);
         x.stop(0, 0);
         queue("an empty yard", x);
@@ -480,7 +494,7 @@ public final class DayEdgesTest {
         queue("the mill crushes when the trucks have been there", x);
         Due.is("so none was brought", x.count(9), 2);
         Due.is("room again", x.next(), 0);
-        Watched none = mill(YARD, 0);
+        Watched none = Watched.mill(YARD, 0);
         none.field(0, 99, 50, 0);
         Due.is("a yard of 0", none.next(), NONE);
         none.pass(5);
@@ -488,7 +502,7 @@ public final class DayEdgesTest {
     }
 
     private static void yardAboveItsSetting() {
-        Watched x = mill(YARD, 30, MILL, 7);
+        Watched x = Watched.mill(YARD, 30, MILL, 7);
         x.field(0, 99, 50, 0);
         x.stop(0, 0);
         x.pass(1);
@@ -519,7 +533,7 @@ public final class DayEdgesTest {
     }
 
     private static void yardOf400() {
-        Watched x = mill(YARD, 400, LOAD, 1, TRUCKS, 20, OLD, 20, MILL, 1);
+        Watched x = Watched.mill(YARD, 400, LOAD, 1, TRUCKS, 20, OLD, 20, MILL, 1);
         x.quota(0, 401);
         x.field(0, 300, 100, 0);
         x.field(0, 300, 100, 0);
@@ -544,7 +558,7 @@ public final class DayEdgesTest {
     }
 
     private static void loadGoesToTheEnd() {
-        Watched x = mill(TRUCKS, 1, MILL, 3);
+        Watched x = Watched.mill(TRUCKS, 1, MILL, 3);
         x.field(0, 99, 50, 0);
         x.pass(1);
         x.field(1, 99, 50, 1);
@@ -559,7 +573,7 @@ public final class DayEdgesTest {
     // ---- 3: the mill
 
     private static void millLessThanALoad() {
-        Watched x = mill(TRUCKS, 1, MILL, 9, LOSS, 0);
+        Watched x = Watched.mill(TRUCKS, 1, MILL, 9, LOSS, 0);
         x.field(0, 20, 50, 0);
         x.pass(1);
         queue("9 of 10", x, 1);
@@ -579,7 +593,7 @@ public final class DayEdgesTest {
         int[][] due = {{10}, {9}, {1}};
         int[] mills = {10, 11, 19};
         for (int i = 0; i < 3; i++) {
-            Watched x = mill(TRUCKS, 2, MILL, mills[i]);
+            Watched x = Watched.mill(TRUCKS, 2, MILL, mills[i]);
             x.field(0, 20, 50, 0);
             x.pass(1);
             queue("a mill of " + mills[i], x, due[i]);
@@ -588,7 +602,7 @@ public final class DayEdgesTest {
 
     private static void millAtAndBeyondTheQueue() {
         for (int mill : new int[] {25, 26, 200}) {
-            Watched x = mill(TRUCKS, 3, MILL, mill);
+            Watched x = Watched.mill(TRUCKS, 3, MILL, mill);
             x.field(0, 25, 50, 0);
             x.pass(1);
             queue("a mill of " + mill + ", a queue of 25", x);
@@ -598,14 +612,14 @@ public final class DayEdgesTest {
             Due.is("an empty queue", x.count(5), 25);
             Due.is("no sugar of it", x.count(6), 12);
         }
-        Watched y = mill(TRUCKS, 3, MILL, 24);
+        Watched y = Watched.mill(TRUCKS, 3, MILL, 24);
         y.field(0, 25, 50, 0);
         y.pass(1);
         queue("a tonne less than the queue", y, 1);
     }
 
     private static void millOf1And200() {
-        Watched x = mill(TRUCKS, 20, LOAD, 30, MILL, 1, YARD, 400);
+        Watched x = Watched.mill(TRUCKS, 20, LOAD, 30, MILL, 1, YARD, 400);
         x.quota(0, 400);
         x.field(0, 300, 50, 0);
         x.field(0, 300, 50, 0);
@@ -622,29 +636,29 @@ public final class DayEdgesTest {
     }
 
     private static void sugarIsRoundedByLoadAndDay() {
-        Watched byDay = mill(MILL, 1, LOSS, 0, OLD, 20);
+        Watched byDay = Watched.mill(MILL, 1, LOSS, 0, OLD, 20);
         byDay.field(0, 10, 99, 0);
         byDay.pass(10);
         Due.is("a tonne in each of 10 days", byDay.count(6), 0);
         Due.is("all 10 are crushed", byDay.count(5), 10);
-        Watched atOnce = mill(LOSS, 0);
+        Watched atOnce = Watched.mill(LOSS, 0);
         atOnce.field(0, 10, 99, 0);
         atOnce.pass(1);
         Due.is("10 together", atOnce.count(6), 9);
-        Watched byLoad = mill(LOAD, 1, TRUCKS, 2);
+        Watched byLoad = Watched.mill(LOAD, 1, TRUCKS, 2);
         byLoad.field(0, 2, 50, 0);
         byLoad.pass(1);
         Due.is("two loads of a tonne, each by itself", byLoad.count(6), 0);
         Due.is("paid for each: 15", byLoad.count(8), 30);
-        Watched just = mill(LOAD, 1);
+        Watched just = Watched.mill(LOAD, 1);
         just.field(0, 1, 100, 0);
         just.pass(1);
         Due.is("a tonne of purity 100", just.count(6), 1);
-        Watched least = mill();
+        Watched least = Watched.mill();
         least.field(0, 1, 1, 0);
         least.pass(1);
         Due.is("a tonne of purity 1", least.count(6), 0);
-        Watched greatest = mill(LOAD, 30);
+        Watched greatest = Watched.mill(LOAD, 30);
         greatest.field(0, 30, 100, 0);
         greatest.pass(1);
         Due.is("30 tonnes of purity 100", greatest.count(6), 30);
@@ -652,7 +666,7 @@ public final class DayEdgesTest {
 
     /** The pay is not that of the sugar, which is rounded already. */
     private static void payIsRoundedByItself() {
-        Watched x = mill(PRICE, 99);
+        Watched x = Watched.mill(PRICE, 99);
         x.field(0, 1, 1, 0);
         x.pass(1);
         Due.is("99 / 100", x.count(8), 0);
@@ -672,7 +686,7 @@ public final class DayEdgesTest {
     }
 
     private static void priceOfItsRange() {
-        Watched x = mill(PRICE, 0, LOAD, 30);
+        Watched x = Watched.mill(PRICE, 0, LOAD, 30);
         x.field(0, 30, 100, 0);
         x.pass(1);
         Due.is("a price of 0", x.count(8), 0);
@@ -691,7 +705,7 @@ public final class DayEdgesTest {
     }
 
     private static void oldCaneInTheYard() {
-        Watched x = mill(OLD, 1, LOSS, 10);
+        Watched x = Watched.mill(OLD, 1, LOSS, 10);
         x.field(0, 10, 31, 0);
         x.field(0, 10, 29, 0);
         x.stop(0, 2);
@@ -709,7 +723,7 @@ public final class DayEdgesTest {
     // ---- stops
 
     private static void stopOfOneDay() {
-        Watched x = mill(MILL, 1);
+        Watched x = Watched.mill(MILL, 1);
         x.field(0, 99, 50, 0);
         x.stop(2, 2);
         int[] crushed = {1, 2, 2, 3, 4};
@@ -719,7 +733,7 @@ public final class DayEdgesTest {
             Due.is("crushed by day " + day, x.count(5), crushed[day]);
             Due.is("stopped by day " + day, x.count(10), stopped[day]);
         }
-        Watched y = mill(MILL, 1);
+        Watched y = Watched.mill(MILL, 1);
         y.field(0, 99, 50, 0);
         y.stop(1, 3);
         int[] crushedThen = {1, 1, 1, 1, 2};
@@ -731,7 +745,7 @@ public final class DayEdgesTest {
     }
 
     private static void stopsAtTheEndsOfTime() {
-        Watched x = mill();
+        Watched x = Watched.mill();
         Due.is("0 to 0", x.stop(0, 0), 0);
         Due.is("999 to 999", x.stop(999, 999), 1);
         x.pass(1);
@@ -742,12 +756,12 @@ public final class DayEdgesTest {
         Due.is("before day 999", x.count(10), 1);
         x.pass(1);
         Due.is("day 999", x.count(10), 2);
-        Watched y = mill();
+        Watched y = Watched.mill();
         Due.is("0 to 999", y.stop(0, 999), 0);
         for (int i = 0; i < 10; i++) y.pass(99);
         y.pass(10);
         Due.is("1000 days", y.count(10), 1000);
-        Watched z = mill();
+        Watched z = Watched.mill();
         z.pass(9);
         Due.is("a stop of days that are over", z.stop(0, 8), 0);
         Due.is("does not count", z.count(10), 0);
@@ -759,7 +773,7 @@ public final class DayEdgesTest {
     }
 
     private static void stopsOverEachOther() {
-        Watched x = mill();
+        Watched x = Watched.mill();
         for (int stop = 0; stop < 5; stop++) Due.is("five stops", x.stop(1, 1 + stop), stop);
         x.pass(9);
         Due.is("each day counts once", x.count(10), 5);
@@ -772,7 +786,7 @@ public final class DayEdgesTest {
     /** By the days that still count it is seen which one is gone. */
     private static void stopDroppedFirstMiddleLast() {
         for (int dropped = 0; dropped < 5; dropped++) {
-            Watched x = mill();
+            Watched x = Watched.mill();
             for (int stop = 0; stop < 5; stop++) x.stop(stop, stop);
             Due.is("four are left", x.dropStop(dropped), 4);
             Due.is("no fifth", x.dropStop(4), NO_SUCH);
@@ -789,15 +803,28 @@ public final class DayEdgesTest {
         }
     }
 
+    private static void stopsBehindMoveUpWhole() {
+        Watched x = Watched.mill();
+        x.stop(0, 0);
+        x.stop(2, 4);
+        x.stop(6, 7);
+        Due.is("the first is dropped", x.dropStop(0), 2);
+        int[] stopped = {0, 0, 1, 2, 3, 3, 4, 5, 5};
+        for (int day = 0; day < stopped.length; day++) {
+            x.pass(1);
+            Due.is("stopped by day " + day, x.count(10), stopped[day]);
+        }
+    }
+
     private static void stoppedWithAnEmptyYard() {
-        Watched x = mill();
+        Watched x = Watched.mill();
         x.stop(0, 1);
         x.pass(3);
         Due.is("the mill was stopped", x.count(10), 2);
     }
 
     private static void days999And1000() {
-        Watched x = mill(TRUCKS, 1);
+        Watched x = Watched.mill(TRUCKS, 1);
         for (int i = 0; i < 10; i++) x.pass(99);
         x.field(0, 20, 50, 999);
         Due.is("to 999", x.pass(9), 999);

@@ -1,7 +1,7 @@
 /** The boundary cases of undo, save and restore. */
 public final class PastEdgesTest {
     private static final int NOT_POSSIBLE = -5, NO_SUCH = -1;
-    private static final int TRUCKS = 0, MILL = 2, PRICE = 6;
+    private static final int TRUCKS = 0, MILL = 2, OLD = 5, PRICE = 6;
 
     public static void main(String[] args) {
         undoOfEachChange(Scenes.FRESH);
@@ -27,6 +27,9 @@ public final class PastEdgesTest {
         undoBehindRestore();
         restoreKeepsPadAndHistory();
         restoreOfMoreAndLess();
+        restoreOverAnotherField();
+        undoOfALostField();
+        fieldBehindAnEmptySlot();
         restoreOf400Loads();
         saveBehindUndo();
         Due.end("PastEdgesTest");
@@ -425,6 +428,79 @@ public final class PastEdgesTest {
         Due.is("four loads", x.count(4), 4);
         x.pass(4);
         Due.is("five stopped days", x.count(10), 5);
+    }
+
+    private static void fieldIs(String told, Watched x, int... want) {
+        for (int what = 0; what < want.length; what++) {
+            Due.is(told + ", ofField(0, " + what + ")", x.ofField(0, what), want[what]);
+        }
+    }
+
+    private static Watched withALostField() {
+        Watched x = new Watched();
+        x.set(TRUCKS, 1);
+        x.set(OLD, 1);
+        x.set(MILL, 7);
+        x.field(2, 31, 90, 0);
+        x.pass(3);
+        fieldIs("20 brought, 11 lost", x, 2, 31, 90, 0, 3, 0, 0, 20, 11, 66);
+        return x;
+    }
+
+    /** Each number of a field is brought back, where another one stands at its place. */
+    private static void restoreOverAnotherField() {
+        Watched x = withALostField();
+        x.save(0);
+        x.pass(1);
+        x.undo();
+        x.undo();
+        x.undo();
+        Due.is("no field", x.count(1), 0);
+        x.field(4, 300, 50, 9);
+        fieldIs("nothing of the undone one stays", x, 4, 300, 50, 9, 0, 300, 0, 0, 0, 50);
+        x.restore(0);
+        fieldIs("as saved", x, 2, 31, 90, 0, 3, 0, 0, 20, 11, 66);
+        x.undo();
+        fieldIs("as before", x, 4, 300, 50, 9, 0, 300, 0, 0, 0, 50);
+        x.field(3, 3, 3, 3);
+        x.pass(10);
+        fieldIs("and it goes on", x, 4, 300, 50, 9, 1, 290, 3, 7, 0, 42);
+    }
+
+    private static void undoOfALostField() {
+        Watched x = withALostField();
+        x.undo();
+        fieldIs("before the days", x, 2, 31, 90, 0, 1, 31, 0, 0, 0, 90);
+        x.pass(1);
+        fieldIs("the first of them", x, 2, 31, 90, 0, 1, 21, 3, 7, 0, 82);
+        x.undo();
+        x.undo();
+        x.field(2, 9, 90, 1);
+        fieldIs("another one", x, 2, 9, 90, 1, 0, 9, 0, 0, 0, 90);
+    }
+
+    /** The empty slot of the beginning leaves no number of the fields that were there. */
+    private static void fieldBehindAnEmptySlot() {
+        Watched x = new Watched();
+        x.save(1);
+        x.set(TRUCKS, 1);
+        x.set(OLD, 1);
+        x.set(MILL, 7);
+        x.field(2, 31, 90, 0);
+        x.pass(2);
+        fieldIs("in the yard and crushed", x, 2, 31, 90, 0, 1, 11, 6, 14, 0, 74);
+        x.restore(1);
+        x.field(5, 8, 7, 0);
+        fieldIs("anew", x, 5, 8, 7, 0, 1, 8, 0, 0, 0, 7);
+        x.undo();
+        x.undo();
+        x.pass(1);
+        fieldIs("lost", x, 2, 31, 90, 0, 3, 0, 0, 20, 11, 66);
+        x.restore(1);
+        x.field(1, 6, 5, 4);
+        fieldIs("anew", x, 1, 6, 5, 4, 0, 6, 0, 0, 0, 5);
+        x.pass(6);
+        fieldIs("and it is brought", x, 1, 6, 5, 4, 2, 0, 0, 6, 0, 0);
     }
 
     private static void restoreOf400Loads() {

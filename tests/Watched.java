@@ -5,6 +5,13 @@ final class Watched {
     private final CaneQuotas x = new CaneQuotas();
     private int calls = 0;
 
+    /** A new one with other settings: each is followed by its value. */
+    static Watched mill(int... settings) {
+        Watched made = new Watched();
+        for (int i = 0; i < settings.length; i += 2) made.set(settings[i], settings[i + 1]);
+        return made;
+    }
+
     int calls() {
         return calls;
     }

@@ -32,12 +32,6 @@ public final class WhatIfEdgesTest {
         Due.end("WhatIfEdgesTest");
     }
 
-    private static Watched mill(int... settings) {
-        Watched x = new Watched();
-        for (int i = 0; i < settings.length; i += 2) x.set(settings[i], settings[i + 1]);
-        return x;
-    }
-
     private static void nothingChanges(Scene s) {
         s.keeps("next", x -> x.next());
         for (int days : new int[] {1, 2, 299, 300}) {
@@ -83,7 +77,7 @@ public final class WhatIfEdgesTest {
     // ---- next
 
     private static void nextOfNoField() {
-        Watched x = mill();
+        Watched x = Watched.mill();
         Due.is("no field", x.next(), NONE);
         x.field(0, 10, 50, 1);
         Due.is("a green one", x.next(), NONE);
@@ -99,7 +93,7 @@ public final class WhatIfEdgesTest {
     }
 
     private static void nextWithoutTrucks() {
-        Watched x = mill(TRUCKS, 0);
+        Watched x = Watched.mill(TRUCKS, 0);
         x.field(0, 10, 50, 0);
         Due.is("if a truck came now", x.next(), 0);
         x.set(TRUCKS, 20);
@@ -109,7 +103,7 @@ public final class WhatIfEdgesTest {
     }
 
     private static void nextOfLostAge() {
-        Watched x = mill(TRUCKS, 0, OLD, 1);
+        Watched x = Watched.mill(TRUCKS, 0, OLD, 1);
         x.field(0, 10, 50, 0);
         x.field(1, 10, 50, 1);
         x.pass(2);
@@ -121,7 +115,7 @@ public final class WhatIfEdgesTest {
     }
 
     private static void nextByRoom() {
-        Watched x = mill(YARD, 10);
+        Watched x = Watched.mill(YARD, 10);
         x.field(0, 99, 50, 0);
         x.stop(0, 0);
         Due.is("an empty yard", x.next(), 0);
@@ -138,7 +132,7 @@ public final class WhatIfEdgesTest {
     }
 
     private static void nextByQuota() {
-        Watched x = mill();
+        Watched x = Watched.mill();
         x.field(0, 99, 50, 0);
         x.field(1, 99, 50, 0);
         x.field(1, 99, 50, 0);
@@ -158,7 +152,7 @@ public final class WhatIfEdgesTest {
     }
 
     private static void nextIsWhatIsBrought() {
-        Watched x = mill(TRUCKS, 1, LOAD, 7, OLD, 20);
+        Watched x = Watched.mill(TRUCKS, 1, LOAD, 7, OLD, 20);
         x.quota(3, 130);
         for (int field = 0; field < 12; field++) x.field(field % 5, 5 + field, 50, field % 3);
         x.stop(0, 999);
@@ -175,7 +169,7 @@ public final class WhatIfEdgesTest {
     // ---- then
 
     private static void thenOfOneDayAnd300() {
-        Watched x = mill(TRUCKS, 1, OLD, 20);
+        Watched x = Watched.mill(TRUCKS, 1, OLD, 20);
         x.field(0, 30, 100, 0);
         Due.is("1 day", x.then(1, 1), 10);
         Due.is("2 days", x.then(2, 1), 10 + 9);
@@ -190,7 +184,7 @@ public final class WhatIfEdgesTest {
     }
 
     private static void thenOnlyOfThem() {
-        Watched x = mill(TRUCKS, 1, OLD, 1);
+        Watched x = Watched.mill(TRUCKS, 1, OLD, 1);
         x.field(0, 30, 100, 0);
         x.field(1, 40, 100, 3);
         x.pass(3);
@@ -201,12 +195,12 @@ public final class WhatIfEdgesTest {
         Due.is("once", x.then(300, 0), 20);
         Due.is("sugar made already does not count", x.then(1, 1), 10);
         Due.is("nor what was paid", x.then(1, 2), 300);
-        Watched empty = mill();
+        Watched empty = Watched.mill();
         for (int what = 0; what < 3; what++) Due.is("of no field", empty.then(300, what), 0);
     }
 
     private static void thenBeyondDay1000() {
-        Watched x = mill(TRUCKS, 1, OLD, 1);
+        Watched x = Watched.mill(TRUCKS, 1, OLD, 1);
         for (int i = 0; i < 10; i++) x.pass(99);
         x.field(0, 30, 100, 999);
         x.pass(9);
@@ -224,7 +218,7 @@ public final class WhatIfEdgesTest {
     }
 
     private static void thenWithStops() {
-        Watched x = mill(TRUCKS, 1, LOSS, 10);
+        Watched x = Watched.mill(TRUCKS, 1, LOSS, 10);
         x.field(0, 10, 100, 0);
         x.stop(0, 1);
         Due.is("stopped on both", x.then(2, 1), 0);
@@ -236,7 +230,7 @@ public final class WhatIfEdgesTest {
     // ---- leastTrucks
 
     private static void leastTrucksIs0() {
-        Watched x = mill(OLD, 1);
+        Watched x = Watched.mill(OLD, 1);
         Due.is("no field", x.leastTrucks(300), 0);
         x.field(0, 10, 50, 5);
         Due.is("green all the while", x.leastTrucks(5), 0);
@@ -250,7 +244,7 @@ public final class WhatIfEdgesTest {
     }
 
     private static void leastTrucksIs20OrNone() {
-        Watched x = mill(OLD, 1, LOAD, 1, TRUCKS, 0);
+        Watched x = Watched.mill(OLD, 1, LOAD, 1, TRUCKS, 0);
         x.field(0, 38, 50, 0);
         Due.is("38 in 2 days", x.leastTrucks(3), 19);
         x.field(0, 1, 50, 0);
@@ -264,7 +258,7 @@ public final class WhatIfEdgesTest {
 
     private static void leastTrucksAtTheLastDay() {
         for (int old : new int[] {1, 20}) {
-            Watched x = mill(OLD, old);
+            Watched x = Watched.mill(OLD, old);
             x.field(0, 1, 50, 0);
             Due.is("OLD and a day", x.leastTrucks(old + 1), 0);
             Due.is("OLD and two days", x.leastTrucks(old + 2), 1);
@@ -274,7 +268,7 @@ public final class WhatIfEdgesTest {
 
     private static void leastTrucksDoesNotLookAtTheSetting() {
         for (int trucks = 0; trucks <= 20; trucks += 5) {
-            Watched x = mill(OLD, 2, TRUCKS, trucks);
+            Watched x = Watched.mill(OLD, 2, TRUCKS, trucks);
             x.field(0, 61, 50, 0);
             Due.is("7 loads in 3 days", x.leastTrucks(4), 3);
             Due.is("the setting stays", x.count(11), trucks);
@@ -282,7 +276,7 @@ public final class WhatIfEdgesTest {
     }
 
     private static void leastTrucksOfWhatIsLostAnyway() {
-        Watched x = mill(OLD, 1);
+        Watched x = Watched.mill(OLD, 1);
         x.field(0, 10, 50, 0);
         x.quota(0, 9);
         Due.is("a tonne above the quota", x.leastTrucks(3), NONE);
@@ -300,7 +294,7 @@ public final class WhatIfEdgesTest {
     }
 
     private static void leastTrucksIsRefusedBeforeNone() {
-        Watched x = mill(OLD, 1, YARD, 0);
+        Watched x = Watched.mill(OLD, 1, YARD, 0);
         x.field(0, 10, 50, 0);
         Due.is("none", x.leastTrucks(300), NONE);
         Due.is("an error goes first", x.leastTrucks(301), BAD_VALUE);
@@ -310,7 +304,7 @@ public final class WhatIfEdgesTest {
     // ---- stopCosts
 
     private static void stopCostsOfNoDayAndAll() {
-        Watched x = mill(LOSS, 10);
+        Watched x = Watched.mill(LOSS, 10);
         Due.is("no cane", x.stopCosts(300, 300), SAME);
         x.field(0, 10, 100, 0);
         Due.is("of no day", x.stopCosts(1, 0), SAME);
@@ -325,7 +319,7 @@ public final class WhatIfEdgesTest {
     }
 
     private static void stopCostsBesideAStop() {
-        Watched x = mill(LOSS, 10);
+        Watched x = Watched.mill(LOSS, 10);
         x.field(0, 10, 100, 0);
         x.stop(1, 2);
         Due.is("a day before the stop", x.stopCosts(9, 1), SAME + 10 - 7);
@@ -339,17 +333,17 @@ public final class WhatIfEdgesTest {
     }
 
     private static void stopCostsByWhatIsLost() {
-        Watched x = mill(LOSS, 0, OLD, 1, YARD, 10, MILL, 10);
+        Watched x = Watched.mill(LOSS, 0, OLD, 1, YARD, 10, MILL, 10);
         x.field(0, 20, 100, 0);
         Due.is("the yard is full meanwhile, 10 are lost", x.stopCosts(9, 1), SAME + 10);
         Due.is("so no later stop costs more", x.stopCosts(9, 2), SAME + 10);
     }
 
     private static void stopBringsMoreSugar() {
-        Watched x = mill(LOSS, 0, TRUCKS, 1, LOAD, 1, MILL, 2, PRICE, 999);
+        Watched x = Watched.mill(LOSS, 0, TRUCKS, 1, LOAD, 1, MILL, 2, PRICE, 999);
         x.field(0, 4, 60, 0);
         Due.is("loads of a tonne make none anyway", x.stopCosts(9, 1), SAME);
-        Watched y = mill(LOSS, 0, LOAD, 10, TRUCKS, 1, MILL, 3);
+        Watched y = Watched.mill(LOSS, 0, LOAD, 10, TRUCKS, 1, MILL, 3);
         y.field(0, 1, 50, 0);
         y.field(1, 10, 50, 1);
         Due.is("1 and 3, 3, 3, 1 of 10 make 0 and 1, 1, 1, 0", y.then(9, 1), 3);
