@@ -23,6 +23,8 @@ public final class DayEdgesTest {
         burntFirstGoesFirst();
         greatestQuotaOfTheSameDay();
         lowestNumberOfTheSameQuota();
+        nothingElseDecides();
+        burntFirstForAnyLoss();
         quotaOf0And1();
         quotaEndsWithinTheDay();
         loadCutByTheField();
@@ -41,6 +43,7 @@ public final class DayEdgesTest {
         payIsRoundedByItself();
         priceOfItsRange();
         oldCaneInTheYard();
+        allThatCanBeBrought();
         stopOfOneDay();
         stopsAtTheEndsOfTime();
         stopsOverEachOther();
@@ -386,6 +389,43 @@ public final class DayEdgesTest {
         queue("two fields of one grower", y, 10, 5, 10);
     }
 
+    /** Of the same day and quota the lowest number goes first, whatever was brought, crushed, paid or lost before. */
+    private static void nothingElseDecides() {
+        for (int brought = 1; brought <= 2; brought++) {
+            for (int loser = 0; loser <= 1; loser++) {
+                Watched x = Watched.mill(TRUCKS, 0, OLD, 1, MILL, 6);
+                x.field(loser, 7, 50, 0);
+                x.pass(3);
+                x.field(0, 30 * brought, 40 * brought, 3);
+                x.field(1, 90 - 30 * brought, 120 - 40 * brought, 3);
+                x.set(TRUCKS, 1);
+                x.quota(brought - 1, 9999);
+                x.pass(1);
+                numbers("a load of one of them", x, brought, BURNT, 20, 4, 6, 0, 32);
+                Due.is("the other one waits", x.ofField(3 - brought, 6), 0);
+                Due.is("one has lost", x.ofGrower(loser, 3), 7);
+                x.quota(0, 100);
+                x.quota(1, 100);
+                Due.is("the lowest number, brought " + brought + ", lost by " + loser, x.next(), 1);
+                x.quota(1, 101);
+                Due.is("but not against a quota", x.next(), 2);
+            }
+        }
+    }
+
+    private static void burntFirstForAnyLoss() {
+        for (int loss : new int[] {0, 8, 100}) {
+            Watched x = Watched.mill(TRUCKS, 0, LOSS, loss);
+            x.quota(0, 9999);
+            x.field(0, 300, 100, 1);
+            x.field(1, 1, 1, 0);
+            x.pass(1);
+            Due.is("burnt first, by a LOSS of " + loss, x.next(), 1);
+            x.quota(1, 0);
+            Due.is("without a quota the other one", x.next(), 0);
+        }
+    }
+
     private static void quotaOf0And1() {
         Watched x = Watched.mill();
         x.quota(0, 0);
@@ -718,6 +758,29 @@ public final class DayEdgesTest {
         Due.is("paid 10 * 1 * 30 / 100 and nothing", x.count(8), 3);
         Due.is("nothing is lost", x.count(7), 0);
         numbers("it is empty", x, 1, EMPTY, 0, 0, 10, 0, 0);
+    }
+
+    /** 30 fields of 300 tonnes of one grower, of the greatest purity and price. */
+    private static void allThatCanBeBrought() {
+        Watched x = Watched.mill(TRUCKS, 20, LOAD, 30, MILL, 200, YARD, 400, LOSS, 0, OLD, 20, PRICE, 999);
+        x.quota(5, 9999);
+        for (int field = 0; field < 30; field++) x.field(5, 300, 100, field / 10 * 20);
+        Due.is("what would be paid", x.then(300, 2), 8991000);
+        Due.is("all the sugar", x.stopCosts(300, 300), 100000 + 9000);
+        x.pass(99);
+        int[] ofGrower = {999, 9000, 9000, 0, 8991000, 0};
+        for (int what = 0; what < 6; what++) Due.is("of the grower, " + what, x.ofGrower(5, what), ofGrower[what]);
+        Due.is("crushed", x.count(5), 9000);
+        Due.is("sugar", x.count(6), 9000);
+        Due.is("paid", x.count(8), 8991000);
+        Due.is("empty", x.fields(EMPTY), (1L << 30) - 1);
+        x.undo();
+        x.set(TRUCKS, 0);
+        Due.is("lost without trucks", x.then(300, 0), 9000);
+        x.pass(99);
+        Due.is("lost of the grower", x.ofGrower(5, 3), 9000);
+        Due.is("lost", x.count(7), 9000);
+        Due.is("all are lost", x.fields(LOST), (1L << 30) - 1);
     }
 
     // ---- stops

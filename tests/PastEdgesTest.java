@@ -20,6 +20,7 @@ public final class PastEdgesTest {
         saveIsNoChange();
         saveKeepsAsItWas();
         savedAgain();
+        savedLessOverMore();
         slotsAreTwo();
         slotWithoutFields();
         restoreTwice();
@@ -297,6 +298,28 @@ public final class PastEdgesTest {
         x.quota(0, 78);
         x.restore(0);
         Due.is("saved once more", x.ofGrower(0, 0), 77);
+    }
+
+    /** An earlier day, fewer fields, stops and loads overwrite what was saved as well. */
+    private static void savedLessOverMore() {
+        Watched x = new Watched();
+        x.field(0, 99, 50, 0);
+        x.stop(0, 9);
+        x.pass(2);
+        Due.is("a field", x.save(0), 1);
+        x.undo();
+        x.save(1);
+        x.undo();
+        x.undo();
+        Due.is("no field", x.save(0), 0);
+        x.restore(1);
+        int[] one = {0, 1, 1, 0, 0};
+        for (int what = 0; what < one.length; what++) Due.is("slot 1, count " + what, x.count(what), one[what]);
+        Due.is("no field", x.restore(0), 0);
+        for (int what = 0; what < one.length; what++) Due.is("slot 0, count " + what, x.count(what), 0);
+        Due.is("no load so far", x.count(9), 0);
+        x.pass(1);
+        Due.is("no stop", x.count(10), 0);
     }
 
     private static void slotsAreTwo() {

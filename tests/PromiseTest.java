@@ -5,6 +5,7 @@ public final class PromiseTest {
     private static final int[] FAR = {Integer.MIN_VALUE, -1000, -1, 1000000, Integer.MAX_VALUE};
 
     public static void main(String[] args) {
+        readmeExample();
         newObject();
         set();
         setYardBelowWhatIsThere();
@@ -40,6 +41,21 @@ public final class PromiseTest {
         save();
         restore();
         Due.end("PromiseTest");
+    }
+
+    /** The example of README.md, with the answers that stand there. */
+    private static void readmeExample() {
+        Watched mill = new Watched();
+        Due.is("README: field", mill.field(0, 50, 80, 0), 0);
+        Due.is("README: stop", mill.stop(2, 3), 0);
+        Due.is("README: then", mill.then(5, 0), 0);
+        Due.is("README: pass", mill.pass(5), 5);
+        Due.is("README: sugar", mill.count(6), 39);
+        Due.is("README: undo", mill.undo(), 2);
+        Due.is("README: put", mill.put('d' << 8 | '1'), 2);
+        Due.is("README: carryOut", mill.carryOut(), 1);
+        Due.is("README: day", mill.count(0), 1);
+        Due.is("README: quota", mill.quota(6, 50), NO_SUCH);
     }
 
     private static void newObject() {

@@ -8,7 +8,9 @@ public final class WhatIfEdgesTest {
         for (Scene s : Scenes.ALL) {
             nothingChanges(s);
             asDaysWouldPass(s);
+            trucksAsDaysWouldPass(s);
         }
+        lostOnTheLastOf300Days();
         nextOfNoField();
         nextWithoutTrucks();
         nextOfLostAge();
@@ -24,6 +26,8 @@ public final class WhatIfEdgesTest {
         leastTrucksAtTheLastDay();
         leastTrucksDoesNotLookAtTheSetting();
         leastTrucksOfWhatIsLostAnyway();
+        leastTrucksBesideAStop();
+        leastTrucksOfAFullYard();
         leastTrucksIsRefusedBeforeNone();
         stopCostsOfNoDayAndAll();
         stopCostsBesideAStop();
@@ -66,12 +70,48 @@ public final class WhatIfEdgesTest {
                 Due.is("then(" + days + ", " + what + ")", x.count(counts[what]) - before, would);
             }
             if (s.made().count(2) == 5) continue;
-            Watched x = s.made();
-            int cost = x.stopCosts(days, days);
-            int would = x.then(days, 1);
-            x.stop(x.count(0), Math.min(999, x.count(0) + days - 1));
-            Due.is("stopCosts of all days", SAME + would - x.then(days, 1), cost);
+            for (int stopped = 1; stopped <= days; stopped++) costsAsAStopWould(s.made(), days, stopped);
         }
+    }
+
+    private static void costsAsAStopWould(Watched x, int days, int stopped) {
+        int cost = x.stopCosts(days, stopped);
+        int would = x.then(days, 1);
+        x.stop(x.count(0), Math.min(999, x.count(0) + stopped - 1));
+        Due.is("stopCosts(" + days + ", " + stopped + ")", SAME + would - x.then(days, 1), cost);
+    }
+
+    /** The least TRUCKS is the first one of 0 to 20 by which the days, if they pass, bring no loss. */
+    private static void trucksAsDaysWouldPass(Scene s) {
+        int left = 1000 - s.made().count(0);
+        for (int days : new int[] {1, 2, 3, 7, 30, 99}) {
+            if (days > left) continue;
+            int least = NONE;
+            for (int trucks = 20; trucks >= 0; trucks--) {
+                Watched x = s.made();
+                x.set(TRUCKS, trucks);
+                int before = x.count(7);
+                x.pass(days);
+                if (x.count(7) == before) least = trucks;
+            }
+            Due.is("leastTrucks(" + days + ")", s.made().leastTrucks(days), least);
+        }
+    }
+
+    private static void lostOnTheLastOf300Days() {
+        Watched x = Watched.mill(TRUCKS, 0, OLD, 1);
+        x.field(0, 10, 50, 297);
+        Due.is("not in 299 days", x.then(299, 0), 0);
+        Due.is("not in 299 days", x.leastTrucks(299), 0);
+        Due.is("on the 300th", x.then(300, 0), 10);
+        Due.is("on the 300th", x.leastTrucks(300), 1);
+        x.undo();
+        x.field(0, 10, 50, 298);
+        Due.is("a day behind them", x.then(300, 0), 0);
+        Due.is("a day behind them", x.leastTrucks(300), 0);
+        x.pass(1);
+        Due.is("from day 1 on the 300th", x.then(300, 0), 10);
+        Due.is("from day 1 on the 300th", x.leastTrucks(300), 1);
     }
 
     // ---- next
@@ -291,6 +331,36 @@ public final class WhatIfEdgesTest {
         x.set(OLD, 2);
         Due.is("not yet", x.leastTrucks(1), 0);
         Due.is("brought today", x.leastTrucks(300), 1);
+    }
+
+    private static void leastTrucksBesideAStop() {
+        Watched x = Watched.mill(OLD, 1, YARD, 10, MILL, 10);
+        x.field(0, 20, 50, 0);
+        Due.is("10 on each of 2 days", x.leastTrucks(3), 1);
+        x.stop(0, 0);
+        Due.is("the first 10 wait in the yard", x.leastTrucks(3), NONE);
+        Due.is("nothing is lost before", x.leastTrucks(2), 0);
+        x.dropStop(0);
+        x.stop(1, 9);
+        Due.is("stopped when both came", x.leastTrucks(3), 1);
+        x.set(YARD, 20);
+        x.dropStop(0);
+        x.stop(0, 9);
+        Due.is("room for both", x.leastTrucks(3), 1);
+    }
+
+    private static void leastTrucksOfAFullYard() {
+        Watched x = Watched.mill(OLD, 1, YARD, 20, TRUCKS, 2, MILL, 1);
+        x.field(0, 20, 50, 0);
+        x.field(1, 10, 50, 1);
+        x.stop(0, 0);
+        x.pass(1);
+        Due.is("full", x.count(3), 20);
+        Due.is("a tonne's room on each day", x.leastTrucks(3), NONE);
+        x.set(MILL, 10);
+        Due.is("room for all on the second day", x.leastTrucks(3), 1);
+        x.set(MILL, 9);
+        Due.is("9 of 10", x.leastTrucks(3), NONE);
     }
 
     private static void leastTrucksIsRefusedBeforeNone() {
